@@ -513,7 +513,6 @@ public final class SureMendings {
 
         Choices(Table table) {
             this.table = table;
-            mendings = 1;
         }
 
         /** To be called after the table has changed. */

@@ -152,6 +152,9 @@ public final class RowsTest {
         due.is("mendAll of ten doubled keys", all.mendAll(1), 10);
         due.is("one row a key", all.count(0) * 100 + all.count(1) * 10 + all.count(2), 1100);
         due.is("the last ones", all.row(0, 2), 10);
+        all.undo();
+        due.is("mendAll by the first ones", all.mendAll(0), 10);
+        due.is("the last of the first ones", all.row(9, 2), 9);
     }
 
     private static void mendAllUnderPreference() {

@@ -91,6 +91,8 @@ public final class ToldTest {
     private static void key() {
         SureMendings x = Made.of("1=a5>2,1=b3>1,1=c3>7,1=d9>2,1=e9,0=a>2");
         all("a key of five rows", keyTold(x, 1), 5, 5, 1, 3, 1);
+        due.is("row 0 as the lightest, of several the first", Made.of("3=a4,3=b4,3=c6").key(3, 2), 0);
+        due.is("row 0 as the heaviest, of several the first", Made.of("3=a6,3=b6,3=c4").key(3, 3), 0);
         all("a key of one row", keyTold(x, 0), 1, 1, 5, 5, 0);
         all("a key that is not there", keyTold(x, 2), 0, 0, NONE, NONE, 3);
         all("one more that is not there", keyTold(x, 7), 0, 0, NONE, NONE, 1);
@@ -306,6 +308,7 @@ public final class ToldTest {
         due.is("all ways are sure", all.count(7), 100);
         due.is("all ways are possible", all.count(8), 100);
         due.is("all values are sure", all.count(5), 8);
+        due.is("all values are possible", all.count(6), 8);
         due.is("all rows are sure", all.count(4), 10);
     }
 
