@@ -1,3 +1,5 @@
+import java.util.Arrays;
+
 /** Counts and prints the answers that are not the ones that are due. */
 final class Due {
     private int checked = 0;
@@ -5,6 +7,11 @@ final class Due {
 
     void is(String call, long got, long want) {
         same(call, Long.toString(got), Long.toString(want));
+    }
+
+    /** All answers of one kind at once. */
+    void all(String call, int[] got, int... want) {
+        same(call, Arrays.toString(got), Arrays.toString(want));
     }
 
     void same(String call, String got, String want) {

@@ -33,6 +33,16 @@ final class Made {
         }
     }
 
+    /** Numbers below and above: the nearest ones, the farthest ones, and those whose low bits are those of 0. */
+    static int[] outside(int least, int greatest) {
+        return new int[] {least - 1, greatest + 1, NONE - 1, -100, 256, 65536, Integer.MIN_VALUE, Integer.MAX_VALUE};
+    }
+
+    /** Characters that are no value: those beside a and h, other kinds, and those whose low bits are those of a. */
+    static char[] noValues() {
+        return new char[] {'`', 'i', 'A', 'H', '0', '7', ' ', 0, 0x161, 0x8061, 0xffff};
+    }
+
     /** The rows, written as in a text of rows. */
     static String rows(SureMendings x) {
         StringBuilder all = new StringBuilder();
@@ -47,5 +57,21 @@ final class Made {
     /** All that can be told of the object without a change: rows, preference, history and text by their counts. */
     static String told(SureMendings x) {
         return rows(x) + " preference " + x.count(9) + " history " + x.count(10) + " text " + x.count(11);
+    }
+
+    /**
+     * All of the object: its state, each state of its history, its snapshot, and what its text gives. To ask for it
+     * uses the object up, and takes some 350 calls for tables of a few rows.
+     */
+    static String whole(SureMendings x) {
+        StringBuilder all = new StringBuilder(told(x));
+        int left = x.undo();
+        while (left >= 0) {
+            all.append("; undo ").append(told(x));
+            left = x.undo();
+        }
+        all.append("; restore ").append(x.restore()).append(' ').append(rows(x)).append(' ').append(x.count(9));
+        all.append("; read ").append(x.readRows()).append(' ').append(rows(x));
+        return all.append("; characters ").append(x.clearText()).toString();
     }
 }

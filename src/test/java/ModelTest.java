@@ -4,6 +4,8 @@ import java.util.Random;
 public final class ModelTest {
     private static final int RUNS = 300;
     private static final int CALLS = 512;
+    /** The most calls that typing and reading a text takes. */
+    private static final int TEXT_CALLS = 60;
     private static final int NONE = SureMendings.NONE;
     private static final Due due = new Due();
 
@@ -33,7 +35,7 @@ public final class ModelTest {
         int done = 0;
         while (done < CALLS) {
             int kind = chance.nextInt(100);
-            if (kind < 3) {
+            if (kind < 3 && done + TEXT_CALLS <= CALLS) {
                 done += typeText();
             } else if (kind < 45) {
                 act();

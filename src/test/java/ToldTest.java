@@ -25,50 +25,11 @@ public final class ToldTest {
         due.finish();
     }
 
-    private static void all(String call, int[] got, int... want) {
-        for (int what = 0; what < want.length; what++) {
-            due.is(call + ", " + what, got[what], want[what]);
-        }
-        due.is(call + ", how many", got.length, want.length);
-    }
-
-    private static int[] rowTold(SureMendings x, int row) {
-        int[] told = new int[6];
-        for (int what = 0; what < told.length; what++) {
-            told[what] = x.row(row, what);
-        }
-        return told;
-    }
-
-    private static int[] keyTold(SureMendings x, int key) {
-        int[] told = new int[5];
-        for (int what = 0; what < told.length; what++) {
-            told[what] = x.key(key, what);
-        }
-        return told;
-    }
-
-    private static int[] valueTold(SureMendings x, char value) {
-        int[] told = new int[5];
-        for (int what = 0; what < told.length; what++) {
-            told[what] = x.value(value, what);
-        }
-        return told;
-    }
-
-    private static int[] wayTold(SureMendings x, int from, int to) {
-        int[] told = new int[5];
-        for (int what = 0; what < told.length; what++) {
-            told[what] = x.way(from, to, what);
-        }
-        return told;
-    }
-
     private static void row() {
         SureMendings x = Made.of("9=h99>0,3=a,9=b7>9");
-        all("the first row", rowTold(x, 0), 9, 'h', 99, 0, 1, 0);
-        all("a row that is alone", rowTold(x, 1), 3, 'a', 0, NONE, 1, 1);
-        all("the last row", rowTold(x, 2), 9, 'b', 7, 9, 1, 0);
+        due.all("the first row", Told.row(x, 0), 9, 'h', 99, 0, 1, 0);
+        due.all("a row that is alone", Told.row(x, 1), 3, 'a', 0, NONE, 1, 1);
+        due.all("the last row", Told.row(x, 2), 9, 'b', 7, 9, 1, 0);
         for (int far : FAR) {
             due.is("row(" + far + ", 0)", x.row(far, 0), UNKNOWN);
             due.is("row ahead of what, " + far, x.row(far, 9), UNKNOWN);
@@ -81,21 +42,21 @@ public final class ToldTest {
     private static void rowUnderPreference() {
         SureMendings x = Made.of("1=a5,1=b6,2=a5,2=b5,3=c");
         x.prefer(true);
-        all("a lighter one", rowTold(x, 0), 1, 'a', 5, NONE, 0, 0);
-        all("the only heaviest one", rowTold(x, 1), 1, 'b', 6, NONE, 1, 1);
-        all("one of two heaviest", rowTold(x, 2), 2, 'a', 5, NONE, 1, 0);
-        all("the other", rowTold(x, 3), 2, 'b', 5, NONE, 1, 0);
-        all("the only one of its key", rowTold(x, 4), 3, 'c', 0, NONE, 1, 1);
+        due.all("a lighter one", Told.row(x, 0), 1, 'a', 5, NONE, 0, 0);
+        due.all("the only heaviest one", Told.row(x, 1), 1, 'b', 6, NONE, 1, 1);
+        due.all("one of two heaviest", Told.row(x, 2), 2, 'a', 5, NONE, 1, 0);
+        due.all("the other", Told.row(x, 3), 2, 'b', 5, NONE, 1, 0);
+        due.all("the only one of its key", Told.row(x, 4), 3, 'c', 0, NONE, 1, 1);
     }
 
     private static void key() {
         SureMendings x = Made.of("1=a5>2,1=b3>1,1=c3>7,1=d9>2,1=e9,0=a>2");
-        all("a key of five rows", keyTold(x, 1), 5, 5, 1, 3, 1);
+        due.all("a key of five rows", Told.key(x, 1), 5, 5, 1, 3, 1);
         due.is("row 0 as the lightest, of several the first", Made.of("3=a4,3=b4,3=c6").key(3, 2), 0);
         due.is("row 0 as the heaviest, of several the first", Made.of("3=a6,3=b6,3=c4").key(3, 3), 0);
-        all("a key of one row", keyTold(x, 0), 1, 1, 5, 5, 0);
-        all("a key that is not there", keyTold(x, 2), 0, 0, NONE, NONE, 3);
-        all("one more that is not there", keyTold(x, 7), 0, 0, NONE, NONE, 1);
+        due.all("a key of one row", Told.key(x, 0), 1, 1, 5, 5, 0);
+        due.all("a key that is not there", Told.key(x, 2), 0, 0, NONE, NONE, 3);
+        due.all("one more that is not there", Told.key(x, 7), 0, 0, NONE, NONE, 1);
         for (int far : FAR) {
             due.is("key(" + far + ", 0)", x.key(far, 0), UNKNOWN);
             due.is("key ahead of what, " + far, x.key(far, 9), UNKNOWN);
@@ -108,17 +69,17 @@ public final class ToldTest {
     private static void keyUnderPreference() {
         SureMendings x = Made.of("1=a5>2,1=b3>1,1=c3>7,1=d9>2,1=e9,0=a>2");
         x.prefer(true);
-        all("all its rows, but two that can be kept", keyTold(x, 1), 5, 2, 1, 3, 1);
+        due.all("all its rows, but two that can be kept", Told.key(x, 1), 5, 2, 1, 3, 1);
     }
 
     private static void value() {
         SureMendings x = Made.of("0=a,0=b,1=a,1=a,2=c,2=a,2=d");
-        all("a", valueTold(x, 'a'), 1, 1, 12, 1, 3);
-        all("b", valueTold(x, 'b'), 0, 1, 6, 0, 1);
-        all("c", valueTold(x, 'c'), 0, 1, 4, 0, 1);
-        all("h", valueTold(x, 'h'), 0, 0, 0, 0, 0);
+        due.all("a", Told.value(x, 'a'), 1, 1, 12, 1, 3);
+        due.all("b", Told.value(x, 'b'), 0, 1, 6, 0, 1);
+        due.all("c", Told.value(x, 'c'), 0, 1, 4, 0, 1);
+        due.all("h", Told.value(x, 'h'), 0, 0, 0, 0, 0);
         SureMendings y = Made.of("0=a,0=b,2=c,2=a,2=d");
-        all("a is not sure by two keys that may fail", valueTold(y, 'a'), 0, 1, 4, 0, 2);
+        due.all("a is not sure by two keys that may fail", Told.value(y, 'a'), 0, 1, 4, 0, 2);
         for (int far : FAR) {
             due.is("value('a', " + far + ")", x.value('a', far), BAD_VALUE);
         }
@@ -129,22 +90,22 @@ public final class ToldTest {
     }
 
     private static void valueEdges() {
-        all("without rows", valueTold(new SureMendings(), 'a'), 0, 0, 0, 0, 0);
+        due.all("without rows", Told.value(new SureMendings(), 'a'), 0, 0, 0, 0, 0);
         SureMendings x = Made.of("0=a1,0=b2,1=b,1=c");
         x.prefer(true);
-        all("a lighter row's value is not possible", valueTold(x, 'a'), 0, 0, 0, 0, 0);
-        all("the heaviest one's is sure", valueTold(x, 'b'), 1, 1, 2, 1, 2);
+        due.all("a lighter row's value is not possible", Told.value(x, 'a'), 0, 0, 0, 0, 0);
+        due.all("the heaviest one's is sure", Told.value(x, 'b'), 1, 1, 2, 1, 2);
         SureMendings y = Made.full();
-        all("with twenty rows", valueTold(y, 'a'), 0, 1, 1024 - 128, 0, 3);
+        due.all("with twenty rows", Told.value(y, 'a'), 0, 1, 1024 - 128, 0, 3);
     }
 
     private static void way() {
         SureMendings x = Made.of("0=a>1,0=a>2,1=a>2,2=a,2=a>0");
-        all("by either pointer", wayTold(x, 0, 2), 1, 1, 4, NONE, 1);
-        all("by one of the pointers", wayTold(x, 0, 1), 0, 1, 2, 1, 1);
-        all("two pointers, both doubled", wayTold(x, 2, 1), 0, 1, 1, 0, 2);
-        all("by one and another", wayTold(x, 1, 0), 0, 1, 2, 0, 2);
-        all("to itself", wayTold(x, 1, 1), 1, 1, 4, NONE, 0);
+        due.all("by either pointer", Told.way(x, 0, 2), 1, 1, 4, NONE, 1);
+        due.all("by one of the pointers", Told.way(x, 0, 1), 0, 1, 2, 1, 1);
+        due.all("two pointers, both doubled", Told.way(x, 2, 1), 0, 1, 1, 0, 2);
+        due.all("by one and another", Told.way(x, 1, 0), 0, 1, 2, 0, 2);
+        due.all("to itself", Told.way(x, 1, 1), 1, 1, 4, NONE, 0);
         for (int far : FAR) {
             due.is("way(" + far + ", 0, 0)", x.way(far, 0, 0), UNKNOWN);
             due.is("way(0, " + far + ", 0)", x.way(0, far, 0), UNKNOWN);
@@ -158,34 +119,34 @@ public final class ToldTest {
 
     private static void wayRoundAndAbsent() {
         SureMendings round = Made.of("0=a>1,1=a>0,2=a>2,3=a>8");
-        all("round without coming there", wayTold(round, 0, 2), 0, 0, 0, 0, NONE);
-        all("one to itself does not come on", wayTold(round, 2, 0), 0, 0, 0, 0, NONE);
-        all("no way to a key that is not there", wayTold(round, 3, 8), 0, 0, 0, 0, NONE);
-        all("no way from a key that is not there", wayTold(round, 8, 3), 0, 0, 0, 0, NONE);
-        all("not to itself if it is not there", wayTold(round, 8, 8), 0, 0, 0, 0, NONE);
+        due.all("round without coming there", Told.way(round, 0, 2), 0, 0, 0, 0, NONE);
+        due.all("one to itself does not come on", Told.way(round, 2, 0), 0, 0, 0, 0, NONE);
+        due.all("no way to a key that is not there", Told.way(round, 3, 8), 0, 0, 0, 0, NONE);
+        due.all("no way from a key that is not there", Told.way(round, 8, 3), 0, 0, 0, 0, NONE);
+        due.all("not to itself if it is not there", Told.way(round, 8, 8), 0, 0, 0, 0, NONE);
         SureMendings through = Made.of("0=a>8,8=a>1,1=a");
         due.is("through a key that is there", through.way(0, 1, 4), 2);
         through.remove(1);
         due.is("and no more when it is gone", through.way(0, 1, 4), NONE);
         SureMendings line = Made.of("0=a>1,1=a>2,2=a>3,3=a>4,4=a>5,5=a>6,6=a>7,7=a>8,8=a>9,9=a");
-        all("through all ten keys", wayTold(line, 0, 9), 1, 1, 1, NONE, 9);
-        all("not back", wayTold(line, 9, 0), 0, 0, 0, 0, NONE);
-        all("without rows", wayTold(new SureMendings(), 0, 0), 0, 0, 0, 0, NONE);
+        due.all("through all ten keys", Told.way(line, 0, 9), 1, 1, 1, NONE, 9);
+        due.all("not back", Told.way(line, 9, 0), 0, 0, 0, 0, NONE);
+        due.all("without rows", Told.way(new SureMendings(), 0, 0), 0, 0, 0, 0, NONE);
         SureMendings choice = Made.of("0=a>1,0=b>2,1=a>0,1=b>2,2=a");
-        all("round in one of four", wayTold(choice, 0, 2), 0, 1, 3, 0, 1);
+        due.all("round in one of four", Told.way(choice, 0, 2), 0, 1, 3, 0, 1);
         SureMendings one = Made.of("0=a>1,1=a>0,1=a>2,2=a>0,2=a>1,2=a>3,3=a");
-        all("one choice all along", wayTold(one, 0, 3), 0, 1, 1, 0, 3);
-        all("the lowest key's choice tells first", wayTold(Made.of("0=a>1,0=a,1=a>2,1=a,2=a"), 0, 2), 0, 1, 1, 1, 2);
+        due.all("one choice all along", Told.way(one, 0, 3), 0, 1, 1, 0, 3);
+        due.all("the lowest key's choice tells first", Told.way(Made.of("0=a>1,0=a,1=a>2,1=a,2=a"), 0, 2), 0, 1, 1, 1, 2);
     }
 
     private static void wayUnderPreference() {
         SureMendings x = Made.of("0=a9>1,0=a8,1=a");
-        all("without the preference", wayTold(x, 0, 1), 0, 1, 1, 1, 1);
+        due.all("without the preference", Told.way(x, 0, 1), 0, 1, 1, 1, 1);
         x.prefer(true);
-        all("with it", wayTold(x, 0, 1), 1, 1, 1, NONE, 1);
+        due.all("with it", Told.way(x, 0, 1), 1, 1, 1, NONE, 1);
         SureMendings y = Made.of("0=a8>1,0=a9,1=a");
         y.prefer(true);
-        all("lost by it", wayTold(y, 0, 1), 0, 0, 0, 0, NONE);
+        due.all("lost by it", Told.way(y, 0, 1), 0, 0, 0, 0, NONE);
     }
 
     private static void kept() {
@@ -286,12 +247,8 @@ public final class ToldTest {
     private static void count() {
         SureMendings x = Made.of("0=a5>1,0=b7>2,1=a>2,2=c9,4=d1,4=d1");
         Made.type(x, "xyz");
-        int[] told = new int[12];
-        for (int what = 0; what < told.length; what++) {
-            told[what] = x.count(what);
-        }
         // sure ways: four keys to themselves, 0-2, 1-2; possible ones: 0-1 too
-        all("count", told, 6, 4, 2, 4, 2, 3, 4, 6, 7, 0, 4, 3);
+        due.all("count", Told.count(x), 6, 4, 2, 4, 2, 3, 4, 6, 7, 0, 4, 3);
         x.prefer(true);
         due.is("mendings with the preference", x.count(3), 2);
         due.is("sure rows with it", x.count(4), 3);
